@@ -23,7 +23,8 @@ public final class TraceBook {
     private Row spareRow;
     /** The latest moment that was opened, with changes or without; null when none was. */
     private Moment latest;
-    private boolean latestIsOpen;
+    /** The latest one while it is open; null when none is. */
+    private Moment openMoment;
 
     public TraceBook() {
         allWires = new Wires();
@@ -31,7 +32,7 @@ public final class TraceBook {
         row = new Row();
         spareRow = new Row();
         latest = null;
-        latestIsOpen = false;
+        openMoment = null;
     }
 
     public int wire(int width) throws IllegalArgumentException, IllegalStateException {
@@ -66,11 +67,11 @@ public final class TraceBook {
         if (latest != null && !opened.isLaterThan(latest.time, latest.step)) {
             throw new IllegalArgumentException("not later than the latest moment");
         }
-        if (!closeLatest()) {
+        if (!closeOpenMoment()) {
             throw new IllegalStateException("the row would have more than 60000 bytes");
         }
         latest = opened;
-        latestIsOpen = true;
+        openMoment = opened;
     }
 
     public boolean change(int wire, int element, int value)
@@ -81,20 +82,21 @@ public final class TraceBook {
         if (value < 0 || value > MOST_VALUE) {
             throw new IllegalArgumentException("no such value");
         }
-        if (latest == null || !latestIsOpen) {
+        if (openMoment == null) {
             throw new IllegalStateException("no moment is open");
         }
-        return latest.put(wire, element, value, row.valueOf(wire, element));
+        return openMoment.put(wire, element, value, row.valueOf(wire, element));
     }
 
     public int close() throws IllegalStateException {
-        if (latest == null || !latestIsOpen) {
+        if (openMoment == null) {
             return NONE;
         }
-        if (!closeLatest()) {
+        int changes = openMoment.changes.size();
+        if (!closeOpenMoment()) {
             throw new IllegalStateException("the row would have more than 60000 bytes");
         }
-        return latest.changes.size();
+        return changes;
     }
 
     public int moments() {
@@ -209,15 +211,15 @@ public final class TraceBook {
         spareRow = row;
         row = loaded;
         latest = row.lastMoment();
-        latestIsOpen = false;
+        openMoment = null;
     }
 
-    /** Closes the latest moment if it is open; false, and nothing is changed, when the row has no room for it. */
-    private boolean closeLatest() {
-        if (latest != null && latestIsOpen && !latest.changes.isEmpty() && !row.append(latest)) {
+    /** Closes the open moment if there is one; false, and nothing is changed, when the row has no room for it. */
+    private boolean closeOpenMoment() {
+        if (openMoment != null && !openMoment.changes.isEmpty() && !row.append(openMoment)) {
             return false;
         }
-        latestIsOpen = false;
+        openMoment = null;
         return true;
     }
 
@@ -497,16 +499,20 @@ public final class TraceBook {
         int readRow() {
             // a moment takes a byte at least, so that no tape has more moments than bytes
             for (int k = 0; k < tape.length && place < tape.length && fault == NONE; k++) {
-                readMoment();
+                Moment moment = readMoment();
+                if (moment != null) {
+                    row.append(moment);
+                }
             }
             return fault;
         }
 
-        private void readMoment() {
+        /** The next moment; null when there is a fault in it. */
+        private Moment readMoment() {
             int start = place;
             long head = readCount();
             if (fault != NONE) {
-                return;
+                return null;
             }
             boolean sameTime = (head & 1) == 1;
             long further = head >> 1;
@@ -514,24 +520,17 @@ public final class TraceBook {
             long step = sameTime ? row.lastStep() + further : 0;
             if (further == 0 || time > MOST_TIME || step > MOST_TIME) {
                 fault = start;
-                return;
+                return null;
             }
             if (!sameTime) {
                 step = readCountWithin(0, MOST_TIME);
             }
             long count = readCountWithin(1, MOST_COUNT);
-            if (fault == NONE) {
-                readChanges(new Moment(time, step), count);
-            }
-        }
-
-        private void readChanges(Moment moment, long count) {
+            Moment moment = new Moment(time, step);
             for (long k = 0; k < count && fault == NONE; k++) {
                 readChange(moment.changes);
             }
-            if (fault == NONE) {
-                row.append(moment);
-            }
+            return fault == NONE ? moment : null;
         }
 
         private void readChange(ArrayList<Change> changes) {

@@ -27,14 +27,21 @@ final class Check {
     /** The call throws just this exception, and the book shows afterwards what it showed before. */
     static void refused(String what, TraceBook book, Class<? extends RuntimeException> want, Call call) {
         String before = shown(book);
-        Object got = "nothing";
+        String got = "nothing";
         try {
             call.run();
         } catch (RuntimeException e) {
-            got = e.getClass();
+            got = thrown(e);
         }
-        due(what + " throws", got, want);
+        due(what + " throws", got, want.getName());
         due(what + " throws and changes nothing:", shown(book), before);
+    }
+
+    /** The exception's name; told otherwise when not the class, but the machine or the library threw it. */
+    static String thrown(RuntimeException e) {
+        StackTraceElement[] calls = e.getStackTrace();
+        boolean own = calls.length > 0 && calls[0].getClassName().startsWith("TraceBook");
+        return own ? e.getClass().getName() : e + " at " + (calls.length > 0 ? calls[0] : "no place");
     }
 
     /** All that the book's asking calls show. */

@@ -31,7 +31,7 @@ public final class ModelTest {
             for (int k = 0; k < CALLS; ) {
                 k += run.call(k);
             }
-            run.both("", () -> sum(Check.bytes(run.book)), () -> sum(run.model.row()));
+            run.both("the row", () -> sum(Check.bytes(run.book)), () -> sum(run.model.row()));
         }
         Check.finish();
     }
@@ -40,7 +40,15 @@ public final class ModelTest {
         return bytes.hashCode();
     }
 
-    private static String outcome(Call call) {
+    private static String ofBook(Call call) {
+        try {
+            return Long.toString(call.run());
+        } catch (RuntimeException e) {
+            return Check.thrown(e);
+        }
+    }
+
+    private static String ofModel(Call call) {
         try {
             return Long.toString(call.run());
         } catch (RuntimeException e) {
@@ -49,11 +57,11 @@ public final class ModelTest {
     }
 
     private void both(String name, Call ofBook, Call ofModel) {
-        story.append(name).append(' ');
-        String got = outcome(ofBook);
-        String due = outcome(ofModel);
+        story.append(name).append("; ");
+        String got = ofBook(ofBook);
+        String due = ofModel(ofModel);
         if (!got.equals(due)) {
-            Check.due(story + ":", got, due);
+            Check.due(story + "the last", got, due);
             Check.finish();
         }
     }

@@ -441,6 +441,10 @@ public final class PromiseTest {
         Check.tape(book, 3, 1, 0, 1);
         Check.due("a good tape behind a bad one", book.load(), -1);
         Check.due("it shows", Check.shown(book), "wires 1 8 64; moment 0 0 1 0 (0 0 1 0); bytes [3, 1, 0, 1]");
+        String loaded = Check.shown(book);
+        Check.tape(book, 3, 1, 0, 2, 0);
+        Check.due("a bad tape behind a good one", book.load(), 4);
+        Check.due("what it leaves", Check.shown(book), loaded);
     }
 
     /** What load() says of a tape, with wires of 2, 1 and 64 elements; nothing may have changed. */
