@@ -527,7 +527,8 @@ public final class TraceBook {
             }
             long count = readCountWithin(1, MOST_COUNT);
             Moment moment = new Moment(time, step);
-            for (long k = 0; k < count && fault == NONE; k++) {
+            // a change takes two bytes at least, so that no tape has more changes than bytes
+            for (int k = 0; k < count && k < tape.length && fault == NONE; k++) {
                 readChange(moment.changes);
             }
             return fault == NONE ? moment : null;

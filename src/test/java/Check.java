@@ -1,15 +1,27 @@
-import java.util.ArrayList;
-import java.util.List;
+import java.util.function.Consumer;
+import java.util.function.Supplier;
 
-/** What the tests share: answers compared, exceptions awaited, and all that a book shows. */
+/** What the tests share: answers compared, exceptions awaited, and all that a book tells. */
 final class Check {
+    static final Class<IllegalArgumentException> ARGUMENT = IllegalArgumentException.class;
+    static final Class<IllegalStateException> STATE = IllegalStateException.class;
+    static final Class<IndexOutOfBoundsException> INDEX = IndexOutOfBoundsException.class;
+    /** The greatest time and step. */
+    static final long MOST = (1L << 60) - 1;
+    /** Numbers that lie far outside of whatever an int tells. */
+    static final int[] FAR = {Integer.MIN_VALUE, Integer.MIN_VALUE + 1, Integer.MAX_VALUE};
+
+    /** Moments in rising order: the first of them that a book opens tells its latest one. */
+    private static final long[][] PROBES = {{0, 0}, {0, 1}, {0, 5}, {0, 6}, {1, 0}, {1, 1}, {5, 4}, {5, 5}, {5, 6},
+        {6, 0}, {7, 7}, {7, 8}, {10, 0}, {10, 1}, {MOST, 0}, {MOST, MOST - 1}, {MOST, MOST}};
+
     private static int wrong = 0;
 
     private Check() {
     }
 
     interface Call {
-        void run();
+        Object run();
     }
 
     static void due(String what, Object got, Object want) {
@@ -24,17 +36,35 @@ final class Check {
         return text.length() > 400 ? text.substring(0, 400) + " .." : text;
     }
 
-    /** The call throws just this exception, and the book shows afterwards what it showed before. */
-    static void refused(String what, TraceBook book, Class<? extends RuntimeException> want, Call call) {
-        String before = shown(book);
-        String got = "nothing";
+    /**
+     * The call throws just this exception, and the book tells afterwards what a twin tells,
+     * that was made alike and never called so.
+     */
+    static void refused(String what, Supplier<Book> made, Class<? extends RuntimeException> want,
+            Consumer<Book> call) {
+        Book book = made.get();
+        due(what + " throws", answer(() -> done(book, call)), want.getName());
+        due(what + " throws, and what the book tells then", told(book), told(made.get()));
+    }
+
+    /** The call does not throw. */
+    static void taken(String what, Supplier<Book> made, Consumer<Book> call) {
+        Book book = made.get();
+        due(what, answer(() -> done(book, call)), "done");
+    }
+
+    private static String done(Book book, Consumer<Book> call) {
+        call.accept(book);
+        return "done";
+    }
+
+    /** What a call answers, or the name of what it throws. */
+    static String answer(Call call) {
         try {
-            call.run();
+            return call.run().toString();
         } catch (RuntimeException e) {
-            got = thrown(e);
+            return thrown(e);
         }
-        due(what + " throws", got, want.getName());
-        due(what + " throws and changes nothing:", shown(book), before);
     }
 
     /** The exception's name; told otherwise when not the class, but the machine or the library threw it. */
@@ -44,53 +74,40 @@ final class Check {
         return own ? e.getClass().getName() : e + " at " + (calls.length > 0 ? calls[0] : "no place");
     }
 
-    /** All that the book's asking calls show. */
-    static String shown(TraceBook book) {
+    /** All that a book tells, also of its open moment, its latest one and its tape; the book is used up then. */
+    static String told(Book book) {
         StringBuilder text = new StringBuilder("wires");
-        for (int w = 0; w < book.wires(); w++) {
+        int wires = book.wires();
+        for (int w = 0; w < wires; w++) {
             text.append(' ').append(book.width(w));
         }
-        for (int m = 0; m < book.moments(); m++) {
-            text.append("; moment");
-            for (int what = 0; what < 4; what++) {
-                text.append(' ').append(book.moment(m, what));
-            }
-            for (int c = 0; c < book.moment(m, 2); c++) {
-                text.append(" (");
-                for (int what = 0; what < 4; what++) {
-                    text.append(book.changed(m, c, what)).append(what < 3 ? " " : ")");
-                }
-            }
-        }
-        return text.append("; bytes ").append(bytes(book)).toString();
+        text.append("; row ").append(book.row());
+        text.append("; close ").append(answer(book::close)).append("; row ").append(book.row());
+        text.append("; wire ").append(answer(() -> book.wire(1)));
+        text.append("; opens ").append(firstOpened(book)).append(", close ").append(answer(book::close));
+        text.append("; tape ").append(tapeLength(book));
+        return text.append(", load ").append(book.load()).append("; row ").append(book.row()).toString();
     }
 
-    static List<Integer> bytes(TraceBook book) {
-        List<Integer> all = new ArrayList<>();
-        for (int i = 0; i < book.size(); i++) {
-            all.add(book.byteAt(i));
+    /** How long the tape is, which stays as it is. */
+    private static String tapeLength(Book book) {
+        int length;
+        try {
+            length = book.feed(0) - 4;
+        } catch (IllegalStateException e) {
+            return "full";
         }
-        return all;
+        book.end(length);
+        return Integer.toString(length);
     }
 
-    /** Puts the bytes on the book's tape, which is empty. */
-    static void tape(TraceBook book, int... bytes) {
-        for (int i = 0; i < bytes.length; i += 4) {
-            int four = 0;
-            for (int k = i; k < i + 4; k++) {
-                four = four << 8 | (k < bytes.length ? bytes[k] : 0);
+    private static String firstOpened(Book book) {
+        for (long[] probe : PROBES) {
+            if (answer(() -> done(book, x -> x.open(probe[0], probe[1]))).equals("done")) {
+                return probe[0] + ", " + probe[1];
             }
-            book.feed(four);
         }
-        book.end(bytes.length);
-    }
-
-    static TraceBook book(int... widths) {
-        TraceBook book = new TraceBook();
-        for (int width : widths) {
-            book.wire(width);
-        }
-        return book;
+        return "none";
     }
 
     /** To be called last: tells the outcome, and ends the program with 1 when an answer was wrong. */
